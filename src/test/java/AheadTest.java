@@ -121,6 +121,14 @@ public final class AheadTest {
         y.sheep(2, 2);
         y.change(1, 2, 99);
         check.due("14: a leader and a ewe come by themselves", y.home(), 2);
+        StraySheep z = new StraySheep();
+        Check.read(z, "orphan at 10 fear 80;ewe at 2;lamb at 2 fear 80;wanderer at 15;wolf 13 pace 0");
+        z.go(21);
+        check.due("14: behind 201", z.home(), Check.NONE);
+        z.go(1);
+        check.due("14: behind 200", z.home(), 200);
+        z.go(1);
+        check.due("14: behind 199", z.home(), 199);
     }
 
     private static void panic() {

@@ -15,6 +15,7 @@ public final class HoursTest {
         go();
         now();
         nowOfNone();
+        nowOfEight();
         lastHour();
         check.end();
     }
@@ -295,6 +296,29 @@ public final class HoursTest {
         check.due("10: 3 cells far is sought", x.now(5), 1);
     }
 
+    private static void nowOfEight() {
+        StraySheep x = new StraySheep();
+        for (int i = 0; i < 8; i++) {
+            x.sheep(0, 15);
+            x.change(i, 2, 99);
+            x.change(i, 3, 9999);
+            x.change(i, 4, 9999);
+        }
+        int[] all = {0, 255, 8 * 99, 8 * 9999, 8 * 9999, 0, 0, 0};
+        for (int what = 0; what < 8; what++) {
+            check.due("10: now(" + what + ") of eight", x.now(what), all[what]);
+        }
+        x.set(0, 15);
+        x.set(1, 8);
+        x.set(2, 14);
+        check.due("10: all AT the fold", x.now(6), 255);
+        x.set(0, 0);
+        x.set(3, 0);
+        x.go(1);
+        check.due("9: all eight frightened", x.now(2), 8 * 98);
+        check.due("9: all eight lost", x.now(4), 8 * 9999);
+    }
+
     /** Farther than 512 calls can come, so only this program's own way is tested here. */
     private static void lastHour() {
         StraySheep x = new StraySheep();
@@ -304,7 +328,14 @@ public final class HoursTest {
         check.due("9: an hour near the last", x.now(0), 99960);
         check.due("9: above the last", x.go(40), Check.STATE);
         check.due("9: BEYOND is asked first", x.go(61), Check.BEYOND);
-        check.due("9: to the last", x.go(39), 0);
+        check.due("9: near it", x.go(29), 0);
+        check.due("23: above the last", x.nights(11), Check.STATE);
+        check.due("23: BEYOND is asked first", x.nights(21), Check.BEYOND);
+        x.image();
+        check.due("23: to the last", x.nights(10), 0);
+        check.due("23: the last", x.now(0), 99999);
+        x.undo();
+        check.due("9: to the last", x.go(10), 0);
         check.due("9: the last", x.now(0), 99999);
         check.due("9: no more", x.go(1), Check.STATE);
         check.due("23: no more", x.nights(1), Check.STATE);

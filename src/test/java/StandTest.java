@@ -95,6 +95,10 @@ public final class StandTest {
             check.due("19: paceFor(" + w[0] + ", " + w[1] + ")", x.paceFor(w[0], w[1]), Check.BEYOND);
         }
         check.due("19: 999 is always enough", x.paceFor(999, 40), 5);
+        StraySheep y = quietHill();
+        y.sheep(0, 8);
+        y.set(2, 11);
+        check.due("19: a wolf that must not move", y.paceFor(0, 1), 0);
     }
 
     private static void tether() {

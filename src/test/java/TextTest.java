@@ -108,6 +108,15 @@ public final class TextTest {
         fault("ewe ewe", 4);
         fault("ewes", 0);
         fault("ew", 0);
+        fault("xwe", 0);
+        fault("ewx", 0);
+        fault("ewez", 0);
+        fault("ewea", 0);
+        fault("told 3", 0);
+        fault("ewe`", 3);
+        fault("ewe{", 3);
+        fault("ewe at 1/", 8);
+        fault("ewe at 1:", 8);
         fault("Ewe", 0);
         fault("eWe", 0);
         fault("ewe at", 6);
