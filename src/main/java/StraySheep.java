@@ -49,6 +49,7 @@ public final class StraySheep {
     private static final int MOST_NIGHTS = 20;
     private static final int MOST_ODDS = 15;
     private static final int MOST_FEAR_ASKED = 999;
+    private static final int ABOVE_ALL_SUMS = MOST_SHEEP * MOST_LOST + 1;
 
     private final Hill live = new Hill();
     // Every question about what would be is played on this one, so no call makes objects.
@@ -253,7 +254,7 @@ public final class StraySheep {
             return finding(STATE);
         }
         int best = 0;
-        int least = Integer.MAX_VALUE;
+        int least = ABOVE_ALL_SUMS;
         for (int place = 0; place < CELLS; place++) {
             trial.become(live);
             trial.moveKeeper(place);
@@ -272,7 +273,7 @@ public final class StraySheep {
             return finding(BEYOND);
         }
         int best = 0;
-        int least = Integer.MAX_VALUE;
+        int least = ABOVE_ALL_SUMS;
         for (int place = 0; place < CELLS; place++) {
             trial.become(live);
             trial.fold = place;

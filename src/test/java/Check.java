@@ -1,4 +1,7 @@
-/** Counts the answers that are not as due; a test ends with exit code 1 if there was one. */
+/**
+ * Counts the answers that are not as due, told by the document's sentence that asks for them; a
+ * test ends with exit code 1 if there was one, or if a sentence was told and nothing asked of it.
+ */
 final class Check {
     static final int BEYOND = -1000001;
     static final int FULL = -1000002;
@@ -8,14 +11,26 @@ final class Check {
     static final int MISSING = -1000006;
     static final int SIZE = -1000007;
 
+    private String sentence = "";
+    private int sentences = 0;
+    private int askedOfSentence = 1;
     private int wrong = 0;
     private int asked = 0;
 
+    /** What is asked from here to the next such call is the test of this sentence of the document. */
+    void says(String words) {
+        endSentence();
+        sentence = words;
+        sentences++;
+        askedOfSentence = 0;
+    }
+
     void due(String what, long got, long want) {
         asked++;
+        askedOfSentence++;
         if (got != want) {
             wrong++;
-            System.out.println(what + " answered " + got + ", due is " + want);
+            System.out.println("\"" + sentence + "\": " + what + " answered " + got + ", due is " + want);
         }
     }
 
@@ -23,41 +38,23 @@ final class Check {
         due(what, so ? 1 : 0, 1);
     }
 
+    static boolean isFinding(long answer) {
+        return answer <= BEYOND && answer >= SIZE;
+    }
+
     void end() {
+        endSentence();
         if (asked == 0 || wrong != 0) {
             System.out.println(wrong + " of " + asked + " answers are not as due");
             System.exit(1);
         }
-        System.out.println(asked + " answers are as due");
+        System.out.println(asked + " answers are as due" + (sentences > 0 ? ", of " + sentences + " sentences" : ""));
     }
 
-    /** Feeds a text to the tape, four bytes a call. */
-    static void feed(StraySheep x, String text) {
-        for (int i = 0; i < text.length(); i += 4) {
-            int n = Math.min(4, text.length() - i);
-            int bytes = 0;
-            for (int j = 0; j < n; j++) {
-                bytes = bytes << 8 | (text.charAt(i + j) & 255);
-            }
-            x.feed(bytes, n);
+    private void endSentence() {
+        if (askedOfSentence == 0) {
+            wrong++;
+            System.out.println("\"" + sentence + "\": nothing was asked");
         }
-    }
-
-    static int read(StraySheep x, String text) {
-        x.wipe();
-        feed(x, text);
-        return x.text();
-    }
-
-    /** A hill on which a sheep of a kind is carried by the keeper, AT a cell of 4 or more; fold 0, hour 3. */
-    static StraySheep carrying(int kind) {
-        StraySheep x = new StraySheep();
-        x.sheep(kind, 4);
-        for (int i = 0; i < 10 && x.hill(4) == -1; i++) {
-            x.change(0, 1, 4);
-            x.set(1, 4);
-            x.go(1);
-        }
-        return x;
     }
 }
