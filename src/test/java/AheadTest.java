@@ -173,8 +173,9 @@ public final class AheadTest {
 
     /** Behind how many hours all are AT the fold, told by the hours themselves. */
     private static int homeHourByHour(StraySheep x) {
+        int all = (1 << x.count(1)) - 1;
         for (int n = 0; n <= 210; n++) {
-            if (x.now(6) == (1 << x.count(1)) - 1) {
+            if (x.now(6) == all) {
                 return n;
             }
             x.go(1);
@@ -275,17 +276,6 @@ public final class AheadTest {
         x.when(0, 3);
         x.home();
         x.panic(0, 99);
-        for (int what = 0; what < 8; what++) {
-            check.due("count(" + what + ")", x.count(what), y.count(what));
-            check.due("now(" + what + ")", x.now(what), y.now(what));
-        }
-        for (int what = 0; what < 5; what++) {
-            check.due("hill(" + what + ")", x.hill(what), y.hill(what));
-        }
-        for (int s = 0; s < 4; s++) {
-            for (int what = 0; what < 10; what++) {
-                check.due("of(" + s + ", " + what + ")", x.of(s, what), y.of(s, what));
-            }
-        }
+        check.alike(x, y, 4);
     }
 }

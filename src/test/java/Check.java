@@ -38,6 +38,21 @@ final class Check {
         due(what, so ? 1 : 0, 1);
     }
 
+    /** That two hills of so many sheep are alike in all that stands there. */
+    void alike(StraySheep x, StraySheep y, int sheep) {
+        for (int what = 0; what < 8; what++) {
+            due("count(" + what + ")", x.count(what), y.count(what));
+        }
+        for (int what = 0; what < 5; what++) {
+            due("hill(" + what + ")", x.hill(what), y.hill(what));
+        }
+        for (int s = 0; s < sheep; s++) {
+            for (int what = 0; what < 5; what++) {
+                due("of(" + s + ", " + what + ")", x.of(s, what), y.of(s, what));
+            }
+        }
+    }
+
     static boolean isFinding(long answer) {
         return answer <= BEYOND && answer >= SIZE;
     }

@@ -5,6 +5,7 @@ public final class HillTest {
     public static void main(String[] args) {
         hillAtFirst();
         nothingAtFirst();
+        eachObjectAlone();
         set();
         setWithSheepCarried();
         hill();
@@ -59,6 +60,29 @@ public final class HillTest {
         for (int s = 0; s < 4; s++) {
             check.due("sheet " + s, x.judge(s), Check.MISSING);
         }
+    }
+
+    private static void eachObjectAlone() {
+        check.says("All as at first: whatever another object was used for");
+        StraySheep used = Hills.carrying(0, 9);
+        Hills.tell(used, 2, 8, 1, 2);
+        used.hold(4, 0);
+        used.image();
+        used.nights(3);
+        used.feed(1, 4);
+        used.hill(9);
+        StraySheep x = new StraySheep();
+        check.due("sheep", x.count(1), 0);
+        check.due("hours", x.count(0), 0);
+        check.due("z", x.count(6), 1);
+        check.due("the wolf", x.hill(2), -1);
+        check.due("findings", x.status(-1), 0);
+        check.due("bytes", x.wipe(), 0);
+        check.due("nothing kept", x.tear(), 0);
+        check.due("a sheet", x.judge(2), Check.MISSING);
+        check.due("a spot", x.as(4, 0), Check.MISSING);
+        check.due("bytes of the used one", used.wipe(), 4);
+        check.due("hours of the used one", used.now(0), 4);
     }
 
     private static void set() {

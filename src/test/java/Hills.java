@@ -21,6 +21,14 @@ final class Hills {
         return x;
     }
 
+    /** A sheet has these numbers. */
+    static void tell(StraySheep x, int s, int bits, int... numbers) {
+        x.sheet(s, bits, numbers.length);
+        for (int i = 0; i < numbers.length; i++) {
+            x.write(s, i, numbers[i]);
+        }
+    }
+
     /** Feeds a text to the tape, four bytes a call. */
     static void feed(StraySheep x, String text) {
         for (int i = 0; i < text.length(); i += 4) {

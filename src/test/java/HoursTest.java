@@ -168,6 +168,12 @@ public final class HoursTest {
         check.due("pace 5, no farther up", wolfBehind(5, 12), 12);
         check.due("pace 5, no farther down", wolfBehind(5, 8), 8);
         check.due("AT it", wolfBehind(5, 10), 10);
+        StraySheep row = Hills.quiet();
+        row.sheep(0, 0);
+        row.set(1, 9);
+        row.set(2, 15);
+        row.go(1);
+        check.due("from the last cell to one in the first", row.hill(2), 14);
         StraySheep x = Hills.quiet();
         x.set(2, 10);
         x.set(3, 5);

@@ -20,15 +20,20 @@ public final class ImageTest {
         statusCountsItself();
         statusAndUndo();
         noFindings();
+        longestUse();
         check.end();
     }
 
+    /** Eight sheep, the first of them carried. */
     private static StraySheep full() {
         StraySheep x = Hills.carrying(1, 12);
-        Hills.read(x, "fold 2;keeper 9;wolf 12 pace 3;lamb at 6 fear 7 lost 8;ewe at 13");
-        x.change(2, 4, 5);
+        Hills.read(x, "fold 2;keeper 9;wolf 12 pace 3;lamb at 6 fear 7 lost 8;ewe at 13;ewe;ewe;ewe;ewe;ram at 15 "
+                + "fear 60");
+        x.change(7, 3, 70);
+        x.change(7, 4, 5);
+        x.hold(0, 7);
         x.hold(3, 1);
-        x.hold(4, 0);
+        x.hold(9, 0);
         x.seed(77);
         return x;
     }
@@ -44,8 +49,9 @@ public final class ImageTest {
                 all.add(x.count(what));
             }
         }
-        for (int s = 0; s < x.count(1); s++) {
-            for (int what = 0; what < 10; what++) {
+        int sheep = x.count(1);
+        for (int s = 0; s < sheep; s++) {
+            for (int what = 0; what < 5; what++) {
                 all.add(x.of(s, what));
             }
         }
@@ -58,9 +64,8 @@ public final class ImageTest {
     private static void changeAll(StraySheep x) {
         x.go(7);
         x.nights(3);
-        x.sheep(5, 5);
-        for (int s = 0; s < 3; s++) {
-            x.drop();
+        x.drop();
+        for (int s = 0; s < 8; s += 7) {
             x.change(s, 0, 4);
             x.change(s, 1, 11);
             x.change(s, 2, 55);
@@ -71,9 +76,10 @@ public final class ImageTest {
         x.set(1, 3);
         x.set(2, -1);
         x.set(3, 0);
-        x.hold(3, -1);
-        x.hold(4, 2);
+        x.hold(0, -1);
+        x.hold(3, 2);
         x.hold(7, 2);
+        x.hold(9, 2);
         x.seed(5);
     }
 
@@ -82,7 +88,7 @@ public final class ImageTest {
         StraySheep x = full();
         List<Integer> was = allOf(x);
         check.due("image()", x.image(), 1);
-        for (int round = 0; round < 3; round++) {
+        for (int round = 0; round < 2; round++) {
             changeAll(x);
             check.yes("all else now", !allOf(x).equals(was));
             check.due("undo()", x.undo(), 1);
@@ -188,17 +194,19 @@ public final class ImageTest {
     private static void count() {
         check.says("0 HOUR, 1 SHEEP, 2 FEAR of all together, 3 FOUND of all together, 4 LOST of all together, "
                 + "5 bytes of THE TAPE, 6 z, 7 SPOTS that hold something.");
-        StraySheep x = full();
-        x.go(2);
-        x.change(0, 2, 30);
-        x.change(0, 3, 100);
-        x.change(0, 4, 1);
-        x.change(1, 2, 7);
-        x.change(1, 3, 8);
-        x.change(2, 2, 9);
-        x.change(2, 3, 10);
+        StraySheep x = new StraySheep();
+        x.go(4);
+        for (int s = 0; s < 3; s++) {
+            x.sheep(s, s);
+            x.change(s, 2, 10 + s);
+            x.change(s, 3, 100 + s);
+            x.change(s, 4, 1000 + s);
+        }
         x.feed(0, 3);
-        int[] count = {3, 3, 46, 6, 118, 3, 77, 2};
+        x.seed(77);
+        x.hold(0, 2);
+        x.hold(9, 2);
+        int[] count = {4, 3, 33, 3003, 303, 3, 77, 2};
         for (int what = 0; what < 8; what++) {
             check.due("count(" + what + ")", x.count(what), count[what]);
         }
@@ -310,5 +318,23 @@ public final class ImageTest {
         check.due("a fault", x.text(), -1);
         check.due("nothing torn", x.tear(), 0);
         check.due("findings", x.status(-1), 0);
+    }
+
+    private static void longestUse() {
+        check.says("An object is used for at most 512 calls after it has been made");
+        StraySheep x = new StraySheep();
+        for (int call = 1; call <= 511; call++) {
+            check.due("call " + call, x.go(0), Check.BEYOND);
+        }
+        check.due("the 512th call", x.status(0), 511);
+        StraySheep y = new StraySheep();
+        for (int call = 1; call <= 512; call++) {
+            check.due("call " + call, y.seed(call + 1), call);
+        }
+        StraySheep z = new StraySheep();
+        for (int call = 1; call <= 511; call++) {
+            z.go(60);
+        }
+        check.due("behind 511 times 60 hours", z.now(0), 30660);
     }
 }

@@ -65,9 +65,9 @@ public final class RefusalTest {
         for (int spot = 0; spot < 9; spot++) {
             x.hold(spot, spot % 3);
         }
-        tell(x, 0, 8, 10, 6, 3);
-        tell(x, 1, 8, 3, 60);
-        tell(x, 2, 16, 9, 8, 7);
+        Hills.tell(x, 0, 8, 10, 6, 3);
+        Hills.tell(x, 1, 8, 3, 60);
+        Hills.tell(x, 2, 16, 9, 8, 7);
         x.image();
         x.set(3, 2);
         x.seed(77);
@@ -95,13 +95,6 @@ public final class RefusalTest {
 
     private static StraySheep newHill() {
         return onFull ? fullHill() : busyHill();
-    }
-
-    private static void tell(StraySheep x, int s, int bits, int... numbers) {
-        x.sheet(s, bits, numbers.length);
-        for (int i = 0; i < numbers.length; i++) {
-            x.write(s, i, numbers[i]);
-        }
     }
 
     /** What stands on the hill, in spots and on the tape. */
@@ -252,6 +245,8 @@ public final class RefusalTest {
         refused(Check.STATE, 6, RAM, 1, 15);
         refused(Check.BEYOND, 6, RAM, 1, 16);
         refused(Check.BEYOND, 6, RAM, 1, -1);
+        full("change: BEYOND: no such SHEEP: -1, while none is CARRIED");
+        refused(Check.BEYOND, 6, -1, 1, 5);
     }
 
     private static void drop() {
@@ -368,6 +363,8 @@ public final class RefusalTest {
         refused(Check.STATE, 21, 2, RAM);
         refused(Check.MISSING, 21, 3, RAM);
         refused(Check.BEYOND, 21, -1, RAM);
+        full("fits: BEYOND: no such SHEEP: -1, while none is CARRIED");
+        refused(Check.BEYOND, 21, 0, -1);
     }
 
     private static void kinds() {

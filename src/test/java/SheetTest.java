@@ -28,13 +28,6 @@ public final class SheetTest {
         check.end();
     }
 
-    private static void tell(StraySheep x, int s, int bits, int... numbers) {
-        x.sheet(s, bits, numbers.length);
-        for (int i = 0; i < numbers.length; i++) {
-            x.write(s, i, numbers[i]);
-        }
-    }
-
     private static StraySheep sheepAt(int... cells) {
         StraySheep x = new StraySheep();
         for (int cell : cells) {
@@ -150,21 +143,27 @@ public final class SheetTest {
     private static void sheetAnew() {
         check.says("A sheet has n numbers, all 0: that had others, too");
         StraySheep x = sheepAt(0, 0, 0);
-        tell(x, 2, 32, 7, 8, 9);
+        Hills.tell(x, 2, 32, 7, 8, 9);
         check.due("they aren't 0", x.judge(2), 1);
         check.due("as many of other bits", x.sheet(2, 8, 3), 3);
         check.due("all 0", x.judge(2), 0);
-        tell(x, 2, 8, 7, 8, 9);
+        Hills.tell(x, 2, 8, 7, 8, 9);
         x.sheet(2, 8, 1);
         check.due("fewer, then as many", x.sheet(2, 8, 3), 3);
         check.due("all 0", x.judge(2), 0);
-        tell(x, 2, 8, 7, 8, 9);
+        Hills.tell(x, 2, 8, 7, 8, 9);
         x.sheet(2, 0, 0);
         check.due("none, then as many", x.sheet(2, 8, 3), 3);
         check.due("all 0", x.judge(2), 0);
-        tell(x, 2, 8, 7, 8, 9);
+        Hills.tell(x, 2, 8, 7, 8, 9);
         x.sheet(2, 8, 41);
         check.due("not by a refused call", x.judge(2), 1);
+        x.sheet(1, 8, 40);
+        x.write(1, 39, 5);
+        x.sheet(1, 8, 40);
+        x.copy(1, 39, 2, 0, 1);
+        x.copy(1, 0, 2, 1, 2);
+        check.due("the last of forty, too", x.judge(2), 0);
     }
 
     private static void write() {
@@ -183,13 +182,13 @@ public final class SheetTest {
     /** Whether the number that comes of v is that of a sheep's cell. */
     private static void becomes(int bits, int v, int cell) {
         StraySheep x = sheepAt(cell);
-        tell(x, 3, bits, v);
+        Hills.tell(x, 3, bits, v);
         check.due(v + " of " + bits + " bits", x.judge(3), 0);
     }
 
     private static void becomesNot(int bits, int v, int cell) {
         StraySheep x = sheepAt(cell);
-        tell(x, 3, bits, v);
+        Hills.tell(x, 3, bits, v);
         check.due(v + " of " + bits + " bits", x.judge(3), 1);
     }
 
@@ -212,7 +211,7 @@ public final class SheetTest {
     /** Whether a number is -1: any cell of a told way. */
     private static int isAny(int bits, int v) {
         StraySheep x = sheepAt(5);
-        tell(x, 3, bits, v);
+        Hills.tell(x, 3, bits, v);
         return x.kinds(3, 0) == 127 ? 1 : 0;
     }
 
@@ -232,16 +231,16 @@ public final class SheetTest {
         check.due("the greatest int of 32 bits", isAny(32, Integer.MAX_VALUE), 0);
         check.due("-1 of 32 bits", isAny(32, -1), 1);
         StraySheep x = sheepAt(0);
-        tell(x, 0, 8, 128);
+        Hills.tell(x, 0, 8, 128);
         check.due("128 of 8 bits is no fear", x.load(0), 0);
-        tell(x, 0, 16, 32768);
+        Hills.tell(x, 0, 16, 32768);
         check.due("32768 of 16 bits is no fear", x.load(0), 0);
     }
 
     /** Six sheep to tell numbers by; sheet 0 is 1 to 6, sheet 1 is all 0. */
     private static StraySheep withSheets() {
         StraySheep x = sheepAt(0, 0, 0, 0, 0, 0);
-        tell(x, 0, 8, 1, 2, 3, 4, 5, 6);
+        Hills.tell(x, 0, 8, 1, 2, 3, 4, 5, 6);
         x.sheet(1, 8, 6);
         return x;
     }
@@ -335,17 +334,17 @@ public final class SheetTest {
     private static void load() {
         check.says("Numbers of a sheet, from its begin on, become FEAR of SHEEP 0, 1, ..: how many came.");
         StraySheep x = sheepAt(0, 0, 0, 0, 0, 0, 0, 0);
-        tell(x, 2, 8, 0, 99, 1, 98, 50, 51, 2, 3);
+        Hills.tell(x, 2, 8, 0, 99, 1, 98, 50, 51, 2, 3);
         check.due("all eight", x.load(2), 8);
         int[] fear = {0, 99, 1, 98, 50, 51, 2, 3};
         for (int s = 0; s < 8; s++) {
             check.due("fear of " + s, x.of(s, 2), fear[s]);
         }
-        tell(x, 2, 16, 7, 8);
+        Hills.tell(x, 2, 16, 7, 8);
         check.due("two", x.load(2), 2);
         check.due("the second", x.of(1, 2), 8);
         check.due("the third stays", x.of(2, 2), 1);
-        tell(x, 2, 32, 9);
+        Hills.tell(x, 2, 32, 9);
         check.due("one", x.load(2), 1);
         check.due("the first", x.of(0, 2), 9);
     }
@@ -356,14 +355,14 @@ public final class SheetTest {
         for (int v : wrong) {
             for (int place = 0; place < 3; place++) {
                 StraySheep x = sheepAt(0, 0, 0);
-                tell(x, 1, 32, 10, 20, 30);
+                Hills.tell(x, 1, 32, 10, 20, 30);
                 x.write(1, place, v);
                 check.due(v + " in place " + place, x.load(1), place);
                 check.due("fear of all", x.now(2), place == 0 ? 0 : place == 1 ? 10 : 30);
             }
         }
         StraySheep x = sheepAt(0, 0);
-        tell(x, 1, 8, 5, 6, 7);
+        Hills.tell(x, 1, 8, 5, 6, 7);
         check.due("a third sheep there isn't", x.load(1), 2);
         check.due("fear of both", x.now(2), 11);
         x.sheet(1, 8, 40);
@@ -385,15 +384,15 @@ public final class SheetTest {
                 + "else 1 and the place of the first that isn't so.");
         int[] cells = {0, 15, 7, 3, 3, 1, 14, 8};
         StraySheep x = sheepAt(cells);
-        tell(x, 3, 8, cells);
+        Hills.tell(x, 3, 8, cells);
         check.due("all eight", x.judge(3), 0);
         for (int place = 7; place >= 0; place--) {
             x.write(3, place, 16);
             check.due("not in place " + place, x.judge(3), 1 + place);
         }
-        tell(x, 3, 32, 256);
+        Hills.tell(x, 3, 32, 256);
         check.due("256 isn't cell 0", x.judge(3), 1);
-        tell(x, 3, 8, 256);
+        Hills.tell(x, 3, 8, 256);
         check.due("256 of 8 bits is", x.judge(3), 0);
     }
 

@@ -6,7 +6,9 @@ public final class StandTest {
         "sheep at 5;ram at 7 fear 55;ewe at 4 fear 30;lamb at 9;wanderer at 10;fold 4;wolf 12 pace 2",
         "lamb at 13 fear 90 lost 40;orphan at 2;ewe at 11;wolf 3 pace 5;fold 9;keeper 15",
         "wanderer at 1;wanderer at 8 lost 9;leader at 14 fear 70;ram at 3;wolf 9 pace 1",
-        "sheep at 15;sheep;ewe at 8;fold 15;wolf 7 pace 3;keeper 2"
+        "sheep at 15;sheep;ewe at 8;fold 15;wolf 7 pace 3;keeper 2",
+        "ram;wolf 9",
+        "lamb at 6;wolf 0"
     };
     private static final int[] HOURS = {0, 1, 2, 7, 20, 39, 40};
 
@@ -43,6 +45,7 @@ public final class StandTest {
         x.set(2, 15);
         x.change(0, 1, 15);
         check.due("beside one in the last cell", x.standFor(1), 14);
+        check.due("in the last cell", hill(4).standFor(7), 15);
     }
 
     private static void standForOfSeveral() {
@@ -76,6 +79,12 @@ public final class StandTest {
         StraySheep y = Hills.carrying(0, 9);
         y.change(0, 3, 700);
         check.due("within reach of one that is carried", y.foldFor(1), 7);
+        StraySheep z = Hills.quiet();
+        for (int s = 0; s < 8; s++) {
+            z.sheep(0, s < 2 ? 12 : s);
+            z.change(s, 3, 9999);
+        }
+        check.due("of eight as long lost as can be", z.foldFor(1), 12);
     }
 
     private static void foldForOfSeveral() {
@@ -98,6 +107,7 @@ public final class StandTest {
         check.due("others an hour later", x.kindFor(0, 6), 0);
         x.change(0, 0, 4);
         check.due("whatever it is now", x.kindFor(0, 6), 0);
+        check.due("a leader", hill(5).kindFor(0, 7), 6);
     }
 
     private static void kindForOfSeveral() {
@@ -183,7 +193,7 @@ public final class StandTest {
     }
 
     private static void bestKinds(int which, int n) {
-        for (int s = 0; s < 3; s++) {
+        for (int s = 0; s < hill(which).count(1); s++) {
             int best = 0;
             int most = -1;
             for (int kind = 0; kind < 7; kind++) {
@@ -286,16 +296,6 @@ public final class StandTest {
         x.kindFor(0, 7);
         x.paceFor(400, 7);
         x.tether(20);
-        for (int what = 0; what < 8; what++) {
-            check.due("count(" + what + ")", x.count(what), y.count(what));
-        }
-        for (int what = 0; what < 5; what++) {
-            check.due("hill(" + what + ")", x.hill(what), y.hill(what));
-        }
-        for (int s = 0; s < 5; s++) {
-            for (int what = 0; what < 10; what++) {
-                check.due("of(" + s + ", " + what + ")", x.of(s, what), y.of(s, what));
-            }
-        }
+        check.alike(x, y, 5);
     }
 }

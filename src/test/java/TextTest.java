@@ -136,6 +136,10 @@ public final class TextTest {
     private static void longestWords() {
         check.says("TOKENS, each as long as can be: WORDS");
         fault("ewes", 0);
+        fault("ewea", 0);
+        fault("ewez", 0);
+        fault("ewe`", 3);
+        fault("ewe{", 3);
         fault("eweat 3", 0);
         fault("sheepram", 0);
         fault("ewe att 3", 4);
@@ -171,6 +175,8 @@ public final class TextTest {
         fault("ewe at 1.5", 8);
         fault("ewe at 1 5", 9);
         fault("ewe at 1e", 8);
+        fault("ewe at 1/", 8);
+        fault("ewe at 1:", 8);
     }
 
     private static void blanks() {
@@ -234,7 +240,7 @@ public final class TextTest {
     }
 
     private static void sheepFaults() {
-        check.says("FAULT: the place (from 0) of the first byte of the first TOKEN that can't stand there: of a new one");
+        check.says("FAULT: the place (from 0) of the first byte of the first TOKEN that can't stand there: of sheep");
         fault("ewe at 16", 7);
         fault("ewe at x", 7);
         fault("ewe at ;", 7);

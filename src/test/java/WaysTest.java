@@ -17,20 +17,13 @@ public final class WaysTest {
         check.end();
     }
 
-    private static void tell(StraySheep x, int s, int bits, int... numbers) {
-        x.sheet(s, bits, numbers.length);
-        for (int i = 0; i < numbers.length; i++) {
-            x.write(s, i, numbers[i]);
-        }
-    }
-
     private static int fits(StraySheep x, int... way) {
-        tell(x, 2, 8, way);
+        Hills.tell(x, 2, 8, way);
         return x.fits(2, 0);
     }
 
     private static int kinds(StraySheep x, int... way) {
-        tell(x, 1, 16, way);
+        Hills.tell(x, 1, 16, way);
         return x.kinds(1, 0);
     }
 
@@ -65,13 +58,13 @@ public final class WaysTest {
         check.due("any but behind 2 hours", fits(x, -1, -1, 3), 8);
         check.due("any in between", fits(x, 0, -1, 4), 65520);
         check.due("any behind that", fits(x, 0, 0, -1), 7);
-        tell(x, 3, 8, 0, 255);
+        Hills.tell(x, 3, 8, 0, 255);
         check.due("255 of 8 bits", x.fits(3, 0), 65535);
-        tell(x, 3, 16, 0, 65535);
+        Hills.tell(x, 3, 16, 0, 65535);
         check.due("65535 of 16 bits", x.fits(3, 0), 65535);
-        tell(x, 3, 32, 0, -1);
+        Hills.tell(x, 3, 32, 0, -1);
         check.due("-1 of 32 bits", x.fits(3, 0), 65535);
-        tell(x, 3, 32, 0, 255);
+        Hills.tell(x, 3, 32, 0, 255);
         check.due("255 of 32 bits", x.fits(3, 0), 0);
     }
 
@@ -88,7 +81,7 @@ public final class WaysTest {
         check.says("fits: STATE: it is CARRIED.");
         StraySheep x = Hills.carrying(0, 9);
         x.sheep(0, 2);
-        tell(x, 0, 8, 9, 7);
+        Hills.tell(x, 0, 8, 9, 7);
         check.due("the carried one", x.fits(0, 0), Check.STATE);
         check.due("another one, which could be anywhere", x.fits(0, 1), 65535);
     }
@@ -150,7 +143,7 @@ public final class WaysTest {
         check.due("any, then 4", kinds(x, -1, 4), 4);
         check.due("any in between", kinds(x, 5, -1, 9), 32);
         check.due("65535 of 16 bits", kinds(x, 5, 65535), 127);
-        tell(x, 0, 32, 5, 65535);
+        Hills.tell(x, 0, 32, 5, 65535);
         check.due("65535 of 32 bits", x.kinds(0, 0), 0);
     }
 
