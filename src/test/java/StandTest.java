@@ -8,7 +8,9 @@ public final class StandTest {
         "wanderer at 1;wanderer at 8 lost 9;leader at 14 fear 70;ram at 3;wolf 9 pace 1",
         "sheep at 15;sheep;ewe at 8;fold 15;wolf 7 pace 3;keeper 2",
         "ram;wolf 9",
-        "lamb at 6;wolf 0"
+        "lamb at 6;wolf 0",
+        "ram;wolf 10",
+        "lamb at 8;wolf 1"
     };
     private static final int[] HOURS = {0, 1, 2, 7, 20, 39, 40};
 
