@@ -24,6 +24,7 @@ public final class StraySheep {
     private static final int FAR_AWAY = 3;
     private static final int NOBODY = -1;
     private static final int AWAY = -1;
+    private static final int UNTETHERED = 0;
 
     private static final int SHEEP = 0;
     private static final int RAM = 1;
@@ -232,7 +233,7 @@ public final class StraySheep {
             if (trial.allAtFold()) {
                 return hours;
             }
-            trial.passHours(1);
+            trial.passHour(UNTETHERED);
         }
         return finding(NONE);
     }
@@ -395,7 +396,7 @@ public final class StraySheep {
         for (int night = 0; night < n; night++) {
             live.wolf = draw() % CELLS;
             live.pace = draw() % (MOST_PACE + 1);
-            live.passHours(1);
+            live.passHour(UNTETHERED);
         }
         return live.total(live.fear);
     }
@@ -680,7 +681,7 @@ public final class StraySheep {
             if (row[sheep] >= v) {
                 return hours;
             }
-            trial.passHours(1);
+            trial.passHour(UNTETHERED);
         }
         return finding(NONE);
     }
@@ -698,7 +699,7 @@ public final class StraySheep {
             if (!told.allows(hours, trial.keeper)) {
                 return false;
             }
-            trial.passHours(1);
+            trial.passHour(UNTETHERED);
         }
         return true;
     }
@@ -708,7 +709,7 @@ public final class StraySheep {
             if (!told.allows(hours, trial.cell[sheep])) {
                 return false;
             }
-            trial.passHours(1);
+            trial.passHour(UNTETHERED);
         }
         return true;
     }
@@ -1024,7 +1025,7 @@ public final class StraySheep {
 
         void passHours(int n) {
             for (int i = 0; i < n; i++) {
-                passHour(0);
+                passHour(UNTETHERED);
             }
         }
 

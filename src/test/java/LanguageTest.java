@@ -6,6 +6,8 @@ import java.nio.file.Files;
 import java.nio.file.Path;
 import java.util.ArrayList;
 import java.util.List;
+import java.util.Map;
+import java.util.TreeMap;
 import java.util.TreeSet;
 import java.util.regex.Matcher;
 import java.util.regex.Pattern;
@@ -25,7 +27,11 @@ public final class LanguageTest {
         face();
         members();
         words();
-        methodLengths();
+        Map<String, String> bodies = bodies();
+        everyMethod(bodies);
+        methodLengths(bodies);
+        depths(bodies);
+        objects(bodies);
         check.end();
     }
 
@@ -50,11 +56,16 @@ public final class LanguageTest {
                 && Modifier.isPublic(made[0].getModifiers()) && made[0].getParameterCount() == 0);
     }
 
-    private static void members() {
-        TreeSet<String> publicNames = new TreeSet<>();
+    private static TreeSet<String> publicNames() {
+        TreeSet<String> names = new TreeSet<>();
         for (String f : FACE) {
-            publicNames.add(f.substring(0, f.indexOf(' ')));
+            names.add(f.substring(0, f.indexOf(' ')));
         }
+        return names;
+    }
+
+    private static void members() {
+        TreeSet<String> publicNames = publicNames();
         List<Class<?>> classes = new ArrayList<>(List.of(StraySheep.class.getDeclaredClasses()));
         check.yes("rule 11: classes", classes.size() < 12);
         for (Class<?> c : classes) {
@@ -108,20 +119,84 @@ public final class LanguageTest {
         check.yes("rule 4: the library is used for " + used, used.isEmpty());
     }
 
-    /** Lines between a method's head and its closing brace, told by their indents. */
-    private static void methodLengths() throws Exception {
-        String[] lines = source().split("\n");
-        int begin = -1;
-        String indent = "";
-        for (int i = 0; i < lines.length; i++) {
-            Matcher head = Pattern.compile("^(    |        )\\w[^=;]*\\) \\{$").matcher(lines[i]);
-            if (begin < 0 && head.find()) {
-                begin = i;
-                indent = head.group(1);
-            } else if (begin >= 0 && lines[i].equals(indent + "}")) {
-                check.yes("rule 11: length of" + lines[begin], i - begin < 60);
-                begin = -1;
+    /** That the text's methods, which the next tests read, are all those of the classes. */
+    private static void everyMethod(Map<String, String> bodies) {
+        TreeSet<String> due = new TreeSet<>();
+        List<Class<?>> classes = new ArrayList<>(List.of(StraySheep.class.getDeclaredClasses()));
+        classes.add(StraySheep.class);
+        for (Class<?> c : classes) {
+            for (Method m : c.getDeclaredMethods()) {
+                due.add(m.getName());
             }
         }
+        due.add("StraySheep");
+        check.yes("the methods found are " + bodies.keySet(), due.equals(bodies.keySet()));
+    }
+
+    /** Lines between a method's head and its closing brace. */
+    private static void methodLengths(Map<String, String> bodies) {
+        for (Map.Entry<String, String> m : bodies.entrySet()) {
+            check.yes("rule 11: length of " + m.getKey(), m.getValue().split("\n").length < 60);
+        }
+    }
+
+    /** Rules 8 and 11: what a call of the face opens, itself counted. */
+    private static void depths(Map<String, String> bodies) {
+        for (String name : publicNames()) {
+            List<String> open = deepest(name, bodies, new ArrayList<>());
+            check.yes("rules 8 and 11: calls open at once " + open, open.size() <= 8);
+        }
+    }
+
+    /** The longest chain of methods of the program behind those that are open; one that comes again ends it. */
+    private static List<String> deepest(String name, Map<String, String> bodies, List<String> open) {
+        List<String> here = new ArrayList<>(open);
+        here.add(name);
+        check.yes("rule 8: no recursion, " + here, !open.contains(name));
+        if (open.contains(name)) {
+            return here;
+        }
+        List<String> longest = here;
+        Matcher call = Pattern.compile("(\\w+)\\(").matcher(bodies.get(name));
+        TreeSet<String> called = new TreeSet<>();
+        while (call.find()) {
+            called.add(call.group(1));
+        }
+        called.retainAll(bodies.keySet());
+        for (String next : called) {
+            List<String> way = deepest(next, bodies, here);
+            longest = way.size() > longest.size() ? way : longest;
+        }
+        return longest;
+    }
+
+    /** Rule 12, kept more strictly: only an object's fields make objects, no call does. */
+    private static void objects(Map<String, String> bodies) {
+        for (Map.Entry<String, String> m : bodies.entrySet()) {
+            boolean makes = Pattern.compile("\\bnew\\b|\\.clone\\(").matcher(m.getValue()).find();
+            check.yes("rule 12: " + m.getKey() + " makes no object", !makes);
+        }
+    }
+
+    /** What stands between the braces of each method, by its name; heads and ends are told by their indents. */
+    private static Map<String, String> bodies() throws Exception {
+        Map<String, String> bodies = new TreeMap<>();
+        String name = "";
+        String indent = "";
+        StringBuilder body = new StringBuilder();
+        for (String line : source().split("\n")) {
+            Matcher head = Pattern.compile("^(    |        )\\w[^=;(]*\\b(\\w+)\\([^=;]*\\) \\{$").matcher(line);
+            if (name.isEmpty() && head.find()) {
+                indent = head.group(1);
+                name = head.group(2);
+                body.setLength(0);
+            } else if (!name.isEmpty() && line.equals(indent + "}")) {
+                check.yes("one method alone is named " + name, bodies.put(name, body.toString()) == null);
+                name = "";
+            } else {
+                body.append(line).append('\n');
+            }
+        }
+        return bodies;
     }
 }
